@@ -90,9 +90,9 @@ public final class BandPark {
 
     private final Tray[] trays = new Tray[MOST_TRAYS];
     private final Tape tape = new Tape();
-    private final ParkReader parkReader = new ParkReader();
-    private final EveningsReader eveningsReader = new EveningsReader();
     private final Stage now = new Stage();
+    private final ParkReader parkReader = new ParkReader(tape);
+    private final EveningsReader eveningsReader = new EveningsReader(tape, now.park);
     private final Stage ahead = new Stage();
     private final Search search = new Search();
     private final Park[] marks = new Park[MOST_MARKS];
@@ -200,7 +200,7 @@ public final class BandPark {
         if (n < 0 || n > tape.filled) {
             return no(NO_NUMBER);
         }
-        boolean taken = parkReader.readPark(tape, n);
+        boolean taken = parkReader.readPark(n);
         keepFault();
         if (!taken) {
             return no(HAS_FAULT);
@@ -213,7 +213,7 @@ public final class BandPark {
         if (n < 0 || n > tape.filled || n > MOST_EVENINGS) {
             return no(NO_NUMBER);
         }
-        boolean taken = eveningsReader.readEvenings(tape, n, now.park);
+        boolean taken = eveningsReader.readEvenings(n);
         keepFault();
         if (!taken) {
             return no(HAS_FAULT);
@@ -1190,11 +1190,14 @@ public final class BandPark {
     /** Reads a PARK into a draft, so that the old one stays if there is a fault. */
     private static final class ParkReader {
         final Park draft = new Park();
-        private Tape tape = null;
+        private final Tape tape;
         private int told = 0;
 
-        boolean readPark(Tape from, int n) {
+        ParkReader(Tape from) {
             tape = from;
+        }
+
+        boolean readPark(int n) {
             told = 0;
             draft.clear();
             tape.begin(n);
@@ -1343,13 +1346,16 @@ public final class BandPark {
     private static final class EveningsReader {
         final Evenings draft = new Evenings();
         private final int[] open = new int[MOST_WITHIN];
+        private final Tape tape;
+        private final Park park;
         private int depth = 0;
-        private Tape tape = null;
-        private Park park = null;
 
-        boolean readEvenings(Tape from, int n, Park names) {
+        EveningsReader(Tape from, Park names) {
             tape = from;
             park = names;
+        }
+
+        boolean readEvenings(int n) {
             depth = 0;
             draft.clear();
             tape.begin(n);
@@ -1611,7 +1617,8 @@ public final class BandPark {
         }
 
         int countCells() {
-            return Math.min(wide * deep, MOST_CELLS);
+            int cells = wide * deep;
+            return cells < MOST_CELLS ? cells : MOST_CELLS;
         }
 
         int cellAt(int column, int row) {
