@@ -28,6 +28,7 @@ public final class PromiseTest {
         hearing();
         held();
         aheadOfNow();
+        aheadToTheEnd();
         holdings();
         bestAndLow();
         games();
@@ -245,6 +246,12 @@ public final class PromiseTest {
         parkFault("pond 0 0;", 2, 0);
         parkFault("tune a loud 1 toll 1;band b at 0 0 strength 1 lips 1;", 2, 21);
         parkFault("park 2 at 2;", 2, 7);
+        parkFault("park 2 2;", 2, 7);
+        parkFault("tune a 1 toll 1;", 2, 7);
+        parkFault("tune a loud 1 1;", 2, 14);
+        parkFault("park 1 by 1;band a 0 0 strength 1 lips 1;", 2, 19);
+        parkFault("park 1 by 1;band a at 0 0 1 lips 1;", 2, 26);
+        parkFault("park 1 by 1;band a at 0 0 strength 1 1;", 2, 37);
         parkFault("park 2 by 2;park 2 by 2;", 5, 12);
         parkFault("fade 1;fade 1;", 5, 7);
         parkFault("rest 1;rest 1;", 5, 7);
@@ -341,6 +348,8 @@ public final class PromiseTest {
         eveningsFault("loop 9; stop; ", 2, 14);
         eveningsFault("loop 9; stop; end", 2, 17);
         eveningsFault("when rain;end;", 2, 5);
+        eveningsFault("when;end;", 2, 4);
+        eveningsFault("when holds north 3;end;", 2, 17);
         eveningsFault("when raining end;", 2, 13);
         eveningsFault("when holds march < 3;end;", 3, 11);
         eveningsFault("when holds nobody < 3;end;", 3, 11);
@@ -630,7 +639,7 @@ public final class PromiseTest {
         x.hour(1);
         x.soothe(0, 66);
         Check.told("hour 200", x, x.tiredIn(0), 200, 0);
-        Check.told("and no cell changes later than 1", x, x.changesIn(0, 0), 2, 0);
+        Check.told("silent now, and held in 2", x, x.changesIn(0, 0), 2, 0);
         for (int i = 0; i < 100; i++) {
             x.hour(99);
         }
@@ -639,6 +648,19 @@ public final class PromiseTest {
         x.soothe(0, 99);
         Check.told("9,999 does not matter: place 0", x, x.lipsIn(0, 1), 98, 0);
         Check.told("9,999 does not matter: places 1, 2, 0", x, x.lipsIn(0, 4), 97, 0);
+    }
+
+    private static void aheadToTheEnd() {
+        BandPark x = Check.made("park 1 by 1;rest 0;tune a loud 1 toll 1;tune b loud 1 toll 0;"
+            + "band c at 0 0 strength 1 lips 67 plays a b b;");
+        Check.no("in 201", x, x.changesIn(0, 0), 8);
+        Check.no("in 201", x, x.tiredIn(0), 8);
+        x.hour(1);
+        Check.told("in 200", x, x.changesIn(0, 0), 200, 0);
+        Check.told("in 200", x, x.tiredIn(0), 200, 0);
+        Check.told("held in 199", x, x.holderIn(0, 0, 199), 0, 0);
+        Check.no("silent in 200", x, x.holderIn(0, 0, 200), 8);
+        Check.told("points in 200", x, x.pointsIn(0, 200), 201, 0);
     }
 
     private static void holdings() {
