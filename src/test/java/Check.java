@@ -2,8 +2,14 @@
 final class Check {
     private static int wrong = 0;
     private static int asked = 0;
+    private static String about = "";
 
     private Check() {
+    }
+
+    /** What stands ahead of each wrong answer from now on. */
+    static void about(String words) {
+        about = words + ": ";
     }
 
     static void same(String what, long got, long want) {
@@ -11,7 +17,7 @@ final class Check {
         if (got != want) {
             wrong++;
             if (wrong <= 40) {
-                System.out.println(what + " answered " + got + ", due is " + want);
+                System.out.println(about + what + " answered " + got + ", due is " + want);
             }
         }
     }
