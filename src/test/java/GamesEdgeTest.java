@@ -258,6 +258,9 @@ public final class GamesEdgeTest {
 
     // ---- TOGETHER
 
+    private static final String BEATS = "tune a loud 1 toll 1 beats 1;tune b loud 1 toll 1 beats 99;tune c loud 1 toll 1 beats 98;"
+        + "tune d loud 1 toll 1 beats 97;tune e loud 1 toll 1 beats 4;tune f loud 1 toll 1 beats 6;";
+
     private static void togetherRefused() {
         Edge.promise(50, "TOGETHER: the beat (2; 5: below 0, above 99; 8: never).");
         for (int no : Edge.NO_NUMBERS) {
@@ -279,8 +282,7 @@ public final class GamesEdgeTest {
 
     private static void together() {
         Edge.promise(50, "the first beat (from 0 on) on which both begin a bar (the TUNE begins one each BEATS beats, from where it is begun on).");
-        BandPark x = Check.made("tune a loud 1 toll 1 beats 1;tune b loud 1 toll 1 beats 99;tune c loud 1 toll 1 beats 98;tune d loud 1 toll 1 beats 97;"
-            + "tune e loud 1 toll 1 beats 4;tune f loud 1 toll 1 beats 6;");
+        BandPark x = Check.made(BEATS);
         Check.told("both at 0", x, x.together(1, 0, 2, 0), 0, 0);
         Check.told("a tune and itself", x, x.together(4, 0, 4, 0), 0, 0);
         Check.told("itself, a bar late", x, x.together(4, 0, 4, 8), 8, 0);
@@ -292,6 +294,7 @@ public final class GamesEdgeTest {
         Check.told("99 late, both", x, x.together(1, 99, 2, 99), 99, 0);
         Check.told("99 each", x, x.together(0, 0, 1, 99), 99, 0);
         for (int late = 0; late <= 99; late += 9) {
+            x = Check.made(BEATS);
             for (int other = 0; other <= 99; other += 11) {
                 Check.told("99 and 98", x, x.together(1, late, 2, other), first(99, late, 98, other), 0);
                 Check.told("98 and 97", x, x.together(2, late, 3, other), first(98, late, 97, other), 0);
