@@ -287,6 +287,8 @@ public final class EveningsEdgeTest {
         lives("three", x, 1 + 2 * (1 + 2 * (1 + 2)), 0);
         Check.told("hours", x, x.many(7), 8, 0);
         Edge.promise(56, "(when, loop count as one each time they are come to from ahead; end does not)");
+        lives("as many steps as can be told", with("park 1 by 1;", "calm;".repeat(30)), 30, 30);
+        lives("as many, in a block", with("park 1 by 1;", "loop 2;" + "calm;".repeat(29) + "end;"), 59, 58);
         lives("an empty loop", with("park 1 by 1;", "loop 99;end;"), 1, 0);
         lives("a loop in a loop", with("park 1 by 1;", "loop 9;loop 9;end;end;"), 10, 0);
         lives("a when in a loop", with("park 1 by 1;", "loop 9;when raining;rain;end;end;"), 10, 0);
@@ -356,6 +358,12 @@ public final class EveningsEdgeTest {
         left("loop 99;loop 2;calm;end;end;loop 1;dry;end;", 0);
         left("loop 99;calm;calm;calm;calm;end;", 1);
         left("", 0);
+        BandPark x = with("park 1 by 1;", MOST + "dry;dry;dry;");
+        x.live(0);
+        Check.told("left", x, x.lived(4), 1, 0);
+        Check.evenings(x, "dry;");
+        x.live(0);
+        Check.told("of the latest alone: none is left", x, x.lived(4), 0, 0);
     }
 
     private static void allIsAsItIsThen() {

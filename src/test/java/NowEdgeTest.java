@@ -79,6 +79,14 @@ public final class NowEdgeTest {
         x.train(0, 0);
         Check.told("0 at least", x, x.heard(0, 0, 5, 4), 0, 0);
         Check.told("0 at least, far below", x, x.heard(0, 0, 5, 0), 0, 0);
+        for (int i = 0; i < 5; i++) {
+            x = Check.made("park 1 by 5;fade 3;tune a loud 9 toll 0;band m at 0 1 strength 1 lips 0 plays a;");
+            Check.told("one column", x, x.heard(0, 0, 0, i), Math.max(0, 10 - 3 * Math.abs(i - 1)), 0);
+            x.wind(1);
+            Check.told("one column, with the wind", x, x.loudest(0, i), i == 0 ? 6 : 10 - 2 * (i - 1), 0);
+            x = Check.made("park 6 by 1;fade 3;tune a loud 9 toll 0;band m at 1 0 strength 1 lips 0 plays a;");
+            Check.told("one row", x, x.heard(0, 0, i, 0), Math.max(0, 10 - 3 * Math.abs(i - 1)), 0);
+        }
         Edge.promise(29, "HUSH is HEARD by 0.");
         x = middle(0);
         Check.told("strength 20", x, x.heard(0, 6, 2, 2), 0, 0);

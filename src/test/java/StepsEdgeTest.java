@@ -95,6 +95,14 @@ public final class StepsEdgeTest {
         Check.no("a fault", x, Check.evenings(x, "hour 4;hour"), 10);
         Check.told("the old ones stay", x, x.live(0), 1, 0);
         Check.told("hour", x, x.many(7), 12, 0);
+        x = Check.made(Edge.PARK);
+        Check.no("a fault within three blocks", x, Check.evenings(x, "loop 1;loop 1;loop 1;loop"), 10);
+        Check.told("a text behind it begins anew", x, Check.evenings(x, "loop 1;loop 1;loop 1;end;end;end;"), 3, 0);
+        Check.no("blocks left open", x, Check.evenings(x, "loop 1;loop 1;"), 10);
+        Check.no("an end without a beginning in this text", x, Check.evenings(x, "end;end;"), 10);
+        Check.same("at its beginning", x.fault(0) * 10 + x.fault(1), 20);
+        Check.no("thirty steps, and one more", x, Check.evenings(x, calms(31)), 10);
+        Check.told("a text behind it begins anew", x, Check.evenings(x, calms(30)), 30, 0);
         x = new BandPark();
         Check.told("of a park of no cells", x, Check.evenings(x, "hour 2;any;stop;"), 3, 0);
         Check.told("lived there", x, x.live(0), 3, 0);

@@ -16,6 +16,7 @@ public final class TextsEdgeTest {
         parkCuts();
         parkEmptiesTheTape();
         parkTakesThePlace();
+        nothingIsLeftOfTexts();
         tokens();
         tokenFaults();
         numbers();
@@ -168,6 +169,32 @@ public final class TextsEdgeTest {
         Check.told("lips", x, x.band(0, 3), 10, 0);
         Check.told("the programme", x, x.entry(0, 0), 0, 0);
         Check.no("no evenings", x, x.live(0), 8);
+    }
+
+    private static void nothingIsLeftOfTexts() {
+        Edge.promise(10, "A PARK that is taken is there in place of that ahead");
+        String full = "park 4 by 3;fade 9;rest 8;odds 7;pond 0 0;pond 3 2;tune march loud 9 toll 9 beats 9;tune p loud 1 toll 1;"
+            + "band north at 0 0 strength 9 lips 9 plays march p march;band q at 3 2 strength 1 lips 1 plays p;";
+        for (String text : new String[] {full, full + "!"}) {
+            BandPark x = new BandPark();
+            Check.park(x, text);
+            Check.told("behind it", x, Check.park(x, "park 4 by 3;tune march loud 1 toll 0;band north at 3 2 strength 2 lips 3;"), 1, 0);
+            int[] want = {4, 3, 1, 1, 2, 2, 4, 0, 4, 0, 0, 0, 12, 0, 0};
+            for (int i = 0; i < want.length; i++) {
+                Check.told("many " + i, x, x.many(i), want[i], 0);
+            }
+            Check.told("no pond", x, x.pond(0, 0), 0, 0);
+            Check.told("no pond", x, x.pond(3, 2), 0, 0);
+            Check.told("beats", x, x.tune(0, 2), 4, 0);
+            int[] band = {3, 2, 2, 3, 3, 0, 0};
+            for (int i = 0; i < band.length; i++) {
+                Check.told("band " + i, x, x.band(0, i), band[i], 0);
+            }
+            Check.told("an empty one", x, Check.park(x, ""), 0, 0);
+            Check.told("no cells", x, x.many(0), 0, 0);
+            Check.told("no ponds", x, x.many(10), 0, 0);
+        }
+        Edge.parkFault(full + "fade 1;", 5, full.length());
     }
 
     // ---- TOKENS

@@ -214,6 +214,7 @@ public final class TraysEdgeTest {
         Edge.promise(5, "all 0 (1; 5; 6).");
         BandPark x = Edge.busy();
         Check.flag("laid again, alike", x, x.tray(0, 0, 5), 0);
+        Check.told("all 0", x, x.read(0, 0), 0, 0);
         Check.told("all 0", x, x.read(0, 4), 0, 0);
         Check.flag("longer", x, x.tray(1, 3, 4), 0);
         Check.told("all 0", x, x.read(1, 1), 0, 0);

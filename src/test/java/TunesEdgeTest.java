@@ -4,6 +4,8 @@ public final class TunesEdgeTest {
         Edge.begin(args);
         holdingRefused();
         holdingAlone();
+        holdingAtAlone();
+        holdingWithAllLips();
         holdingFirst();
         holdingAgainst();
         holdingWithHush();
@@ -78,6 +80,31 @@ public final class TunesEdgeTest {
         holds("no lips: a rests it not, b does", x, 0, 0, 1, 0, 0);
         // rest 2 behind b, who is tired: c is played twice then
         holds("rest first", x, 0, 0, 3, 2, 122);
+    }
+
+    private static void holdingAtAlone() {
+        Edge.promise(41, "The k-th ENTRY of HOLDING, from 0 on (6: HUSH)");
+        String park = "park 1 by 1;tune a loud 0 toll 0;tune b loud 1 toll 0;tune c loud 2 toll 9;band d at 0 0 strength 0 lips 0;";
+        for (int k = 0; k < 4; k++) {
+            BandPark x = Check.made(park);
+            Check.told("asked alone", x, x.holdingAt(0, 0, 0, 4, k), 1, 0);
+        }
+        BandPark x = Check.made("park 2 by 1;fade 9;tune a loud 0 toll 0;tune b loud 1 toll 0;band d at 0 0 strength 0 lips 0;band e at 1 0 strength 0 lips 0;");
+        Check.told("one cell is its own", x, x.holding(0, 0, 0, 2), 2, 0);
+        Check.told("another cell", x, x.holdingAt(0, 1, 0, 2, 0), 0, 0);
+        Check.told("its own again", x, x.holdingAt(0, 0, 0, 1, 0), 1, 0);
+        Check.told("the other's own", x, x.holdingAt(1, 1, 0, 3, 2), 1, 0);
+    }
+
+    private static void holdingWithAllLips() {
+        BandPark x = Check.made("park 1 by 1;rest 9;tune a loud 1 toll 9;tune b loud 1 toll 0;band c at 0 0 strength 0 lips 99;");
+        holds("99 lips: four hours", x, 0, 0, 4, 4, 0);
+        holds("then one", x, 0, 0, 1, 1, 0);
+        holds("then three", x, 0, 0, 3, 3, 0);
+        holds("then two", x, 0, 0, 2, 2, 0);
+        x.train(0, 0);
+        x.rain(true);
+        holds("none is held with 99 lips", x, 0, 0, 2, 0, 0);
     }
 
     private static void holdingFirst() {

@@ -89,6 +89,9 @@ public final class WaysEdgeTest {
         Check.told("n 0: all of 0 to 99", x, x.fits(0, 0, 0), 100, 0);
         Check.told("n 0: 0 alone", x, x.fits(1, 0, 0), 1, 0);
         Check.no("n 1 of a row of none", x, x.fits(0, 0, 1), 4);
+        x.tray(0, 0, 25);
+        Check.no("n 25, though there are 25 numbers", x, x.fits(0, 0, 25), 5);
+        Check.no("n 25, though there are 25 numbers", x, x.fitsAt(1, 0, 25, 0), 5);
         x.tray(0, 0, 24);
         Check.told("n 24: tired always can't be, by rest 2", x, x.fits(0, 0, 24), 0, 0);
         Check.told("n 24: the most is 0, so that it is always tired", x, x.fits(1, 0, 24), 1, 0);
