@@ -208,6 +208,16 @@ public final class AheadEdgeTest {
         x.set(0, 1, 6);
         // at hour 1 hush comes first, so that there are always lips enough in hours 2, 4 ..
         Check.no("rests in time", x, x.tiredIn(0), 8);
+        x = Check.made("park 6 by 1;rest 0;tune a loud 1 toll 1;band ba at 0 0 strength 1 lips 5 plays a;band bb at 1 0 strength 1 lips 4 plays a;"
+            + "band bc at 2 0 strength 1 lips 3 plays a;band bd at 3 0 strength 1 lips 2 plays a;band be at 4 0 strength 1 lips 1 plays a;"
+            + "band bf at 5 0 strength 1 lips 0 plays a;");
+        for (int b = 0; b < 6; b++) {
+            Check.told("the band that is asked for", x, x.tiredIn(b), 5 - b, 0);
+        }
+        for (int b = 0; b < 6; b++) {
+            x.set(b, 0, 6);
+            Check.no("it alone", x, x.tiredIn(b), 8);
+        }
     }
 
     private static void changesIn() {
@@ -249,5 +259,14 @@ public final class AheadEdgeTest {
         Check.told("to silence", x, x.changesIn(0, 0), 3, 0);
         x = Check.made("park 1 by 1;");
         Check.no("silent for ever", x, x.changesIn(0, 0), 8);
+        // silent, a blur, l: nobody is nobody, be it for silence or for a blur
+        x = Check.made("park 2 by 1;fade 0;tune z loud 1 toll 0;band l at 0 0 strength 1 lips 0 plays hush z z;"
+            + "band r at 1 0 strength 1 lips 0 plays hush z hush;");
+        Check.told("from silence past a blur to l", x, x.changesIn(0, 0), 2, 0);
+        x.set(1, 2, 0);
+        Check.no("silence and blurs alone", x, x.changesIn(0, 0), 8);
+        x.set(0, 0, 0);
+        x.set(1, 0, 0);
+        Check.no("a blur for ever", x, x.changesIn(1, 0), 8);
     }
 }

@@ -4,12 +4,18 @@ public final class DeedsEdgeTest {
     private static final String LINE = "park 3 by 1;fade 2;rest 2;pond 1 0;tune a loud 4 toll 3;tune z loud 0 toll 0;"
         + "band l at 0 0 strength 2 lips 7 plays a;band r at 2 0 strength 2 lips 9 plays a;";
 
+    /** Six bands in the first row, each heard where it stands alone; the last one has the most lips. */
+    private static final String SIX = "park 6 by 5;fade 9;rest 1;tune a loud 1 toll 2;band ba at 0 0 strength 0 lips 4 plays a;"
+        + "band bb at 1 0 strength 0 lips 5 plays a;band bc at 2 0 strength 0 lips 6 plays a;band bd at 3 0 strength 0 lips 7 plays a;"
+        + "band be at 4 0 strength 0 lips 8 plays a;band bf at 5 0 strength 0 lips 9 plays a;";
+
     public static void main(String[] args) throws Exception {
         Edge.begin(args);
         hoursRefused();
         hoursToTheLast();
         pointsOfAnHour();
         lipsOfAnHour();
+        hoursOfSix();
         wantsAndPlays();
         winds();
         rains();
@@ -131,6 +137,27 @@ public final class DeedsEdgeTest {
         x.rule(5, 9);
         x.hour(1);
         Check.told("rest 9", x, x.band(0, 3), 7, 0);
+    }
+
+    private static void hoursOfSix() {
+        Edge.promise(18, "each CELL gives who HOLDS it a POINT, a POND 3.");
+        BandPark x = Check.made(SIX);
+        Check.told("one each", x, x.hour(1), 6, 0);
+        x.dig(5, 0, true);
+        Check.told("the pond is the last one's", x, x.hour(1), 8, 0);
+        // lips: 0 1 2 3 4 5, so that two are tired in the third hour
+        Check.told("two are tired", x, x.hour(1), 6, 0);
+        for (int b = 0; b < 6; b++) {
+            Check.told("points", x, x.band(b, 5), b < 2 ? 2 : b < 5 ? 3 : 7, 0);
+            Check.told("lips", x, x.band(b, 3), b < 2 ? b + 1 : b - 2, 0);
+        }
+        for (int b = 0; b < 6; b++) {
+            x.drop(b);
+        }
+        x.hour(99);
+        for (int b = 0; b < 6; b++) {
+            Check.told("rest", x, x.band(b, 3), b + 4, 0);
+        }
     }
 
     private static void wantsAndPlays() {
@@ -283,6 +310,15 @@ public final class DeedsEdgeTest {
         Check.flag("where it was", x, x.move(2, 0, 0), 0);
         Check.flag("a pond", x, x.move(0, 1, 1), 0);
         Check.told("its own cell is the loudest", x, x.heard(0, 0, 1, 1), 12, 0);
+        x = Check.made(SIX);
+        for (int b = 0; b < 6; b++) {
+            for (int other = 0; other < 6; other++) {
+                Check.flag("each of six is there", x, x.move(b, other, 0), 9);
+            }
+        }
+        Check.flag("the last of six goes", x, x.move(5, 5, 4), 0);
+        Check.flag("its cell is free then", x, x.move(0, 5, 0), 0);
+        Check.flag("where it is now is not", x, x.move(0, 5, 4), 9);
     }
 
     private static void trains() {

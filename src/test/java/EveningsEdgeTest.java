@@ -261,6 +261,14 @@ public final class EveningsEdgeTest {
         lives("who wants hush is not tired", x, 1, 0);
         Check.told("calm", x, x.many(8), 4, 0);
         Edge.promise(56, "TEST: holds NAME COMPARES NUMBER, or tired NAME, or raining.");
+        x = with("park 4 by 1;rest 0;tune a loud 1 toll 1;band b at 0 0 strength 1 lips 0 plays a;band c at 1 0 strength 1 lips 1 plays a;"
+            + "band d at 2 0 strength 1 lips 2 plays a;", "when tired d;wind 3;end;when tired c;wind 2;end;when tired b;wind 1;end;");
+        lives("b alone", x, 4, 0);
+        Check.told("south", x, x.many(8), 1, 0);
+        x.hour(1);
+        lives("c, too", x, 5, 0);
+        x.hour(1);
+        lives("all", x, 6, 0);
         x = with(park, "when raining;wind 0;end;rain;when raining;wind 1;end;dry;when raining;wind 2;end;");
         lives("raining", x, 6, 0);
         Check.told("south", x, x.many(8), 1, 0);
@@ -518,6 +526,9 @@ public final class EveningsEdgeTest {
         Check.same("0 by 1", x.top() * 10 + x.bottom(), 1);
         Check.evenings(x, "");
         Check.flag("evenings of no steps", x, x.mean(0, 5, 7), 0);
+        x = with("park 1 by 1;tune a loud 1 toll 0;band b at 0 0 strength 1 lips 0 plays a;", "loop 2;loop 3;loop 4;hour 1;end;end;end;");
+        Check.flag("blocks in blocks in blocks", x, x.mean(0, 5, 7), 0);
+        Check.same("24 by 1", x.top() * 10 + x.bottom(), 241);
         x = late(9998, "hour 2;");
         int points = x.band(0, 5);
         Check.flag("hours beyond 9,999 are missed", x, x.mean(0, 0, 2), 0);

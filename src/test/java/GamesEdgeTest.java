@@ -82,6 +82,13 @@ public final class GamesEdgeTest {
         x.train(0, 20);
         Check.told("whatever the second does", x, x.game(0, 1, 2), 30, 0);
         Check.told("whatever it does first", x, x.game(1, 0, 3), -30, 0);
+        x = Check.made("park 6 by 5;fade 0;tune s loud 0 toll 0;tune t loud 1 toll 0;band a at 0 0 strength 0 lips 0 plays s;"
+            + "band b at 1 0 strength 0 lips 0;band c at 2 0 strength 0 lips 0;band d at 3 0 strength 0 lips 0;band e at 4 0 strength 0 lips 0;"
+            + "band f at 5 0 strength 0 lips 0 plays t;");
+        Check.told("the last of six", x, x.game(5, 0, 0), 30, 0);
+        Check.told("against the last of six", x, x.game(0, 5, 0), -30, 0);
+        Check.told("against the last of six: a blur", x, x.game(0, 5, 1), 0, 0);
+        Check.told("two others: the last plays on", x, x.game(0, 1, 3), 0, 0);
         x = Check.made("park 2 by 1;band l at 0 0 strength 20 lips 0;band r at 1 0 strength 0 lips 0;");
         for (int turns = 0; turns < 4; turns++) {
             Check.told("no tunes", x, x.game(0, 1, turns), 0, 0);
@@ -188,6 +195,13 @@ public final class GamesEdgeTest {
         Check.told("33", x, x.ally(33), 30, 0);
         Check.told("32: a blur alone", x, x.ally(32), 0, 0);
         Check.no("64", x, x.ally(64), 5);
+        x = Check.made("park 6 by 5;fade 0;tune s loud 0 toll 0;tune t loud 1 toll 0;band a at 0 0 strength 0 lips 0 plays s;"
+            + "band b at 1 0 strength 0 lips 0;band c at 2 0 strength 0 lips 0;band d at 3 0 strength 0 lips 0;band e at 4 0 strength 0 lips 0;"
+            + "band f at 5 0 strength 0 lips 0 plays t;");
+        Check.told("the last of six alone", x, x.ally(32), 30, 0);
+        Check.told("all others", x, x.ally(31), 0, 0);
+        x.set(5, 0, 6);
+        Check.told("it plays hush", x, x.ally(63), 0, 0);
     }
 
     private static void stableRefused() {

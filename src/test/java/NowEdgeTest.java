@@ -243,6 +243,15 @@ public final class NowEdgeTest {
         Check.told("the other is tired", x, x.lawns(0), 30, 0);
         x.dig(0, 0, true);
         Check.told("a pond is one cell", x, x.lawns(0), 30, 0);
+        x = Check.made("park 6 by 5;fade 0;tune a loud 1 toll 0;band ba at 0 0 strength 0 lips 0 plays a;band bb at 1 0 strength 0 lips 0 plays a;"
+            + "band bc at 2 0 strength 0 lips 0 plays a;band bd at 3 0 strength 0 lips 0 plays a;band be at 4 0 strength 0 lips 0 plays a;"
+            + "band bf at 5 0 strength 0 lips 0 plays a;");
+        for (int b = 5; b >= 0; b--) {
+            x.train(b, 6 - b);
+            for (int other = 0; other < 6; other++) {
+                Check.told("the strongest of six", x, x.lawns(other), other == b ? 30 : 0, 0);
+            }
+        }
     }
 
     private static void ponds() {
@@ -274,6 +283,15 @@ public final class NowEdgeTest {
         x.dig(0, 0, false);
         Check.flag("two of three, one is silent", x, x.ponds(0), 0);
         Check.same("2 by 3", x.top() * 10 + x.bottom(), 23);
+        x = Check.made("park 6 by 5;fade 0;tune a loud 1 toll 0;band b at 5 4 strength 1 lips 0 plays a;");
+        for (int i = 0; i < 30; i++) {
+            x.dig(i % 6, i / 6, true);
+            Check.flag("all that there are", x, x.ponds(0), 0);
+            Check.same("1 by 1", x.top() * 10 + x.bottom(), 11);
+        }
+        x.rule(4, 9);
+        Check.flag("its own of 30", x, x.ponds(0), 0);
+        Check.same("1 by 30", x.top() * 100 + x.bottom(), 130);
     }
 
     private static void copies() {

@@ -348,6 +348,8 @@ public final class TextsEdgeTest {
         Edge.parkFault(eight + "abcdefghi;", 2, eight.length());
         Edge.parkFault(eight + "abcdefg;", 3, eight.length());
         Edge.parkFault("strengths 1;", 2, 0);
+        Edge.parkFault("park 1 by 1;band b at 0 0 strengths 1 lips 1;", 2, 26);
+        Edge.parkFault("park 1 by 1;band b at 0 0 strengthstrength 1 lips 1;", 2, 26);
         Edge.parkFault("tune 1 loud 1 toll 1;", 2, 5);
         Edge.parkFault("tune = loud 1 toll 1;", 2, 5);
     }
@@ -386,6 +388,14 @@ public final class TextsEdgeTest {
         x = Check.made("park 6 by 5;pond 1 2;");
         Check.told("not its mirror", x, x.pond(2, 1), 0, 0);
         Check.told("column, row", x, x.pond(1, 2), 1, 0);
+        StringBuilder all = new StringBuilder("park 6 by 5;");
+        for (int cell = 0; cell < 30; cell++) {
+            all.append("pond ").append(cell % 6).append(' ').append(cell / 6).append(';');
+        }
+        x = Check.made(all.toString());
+        Check.told("all", x, x.many(10), 30, 0);
+        Check.park(x, "park 6 by 5;");
+        Check.told("a text behind it has none", x, x.many(10), 0, 0);
     }
 
     // ---- how many
@@ -413,6 +423,9 @@ public final class TextsEdgeTest {
         Check.told("six bands", x, x.many(3), 6, 0);
         Check.told("the last tune", x, x.tune(5, 0), 5, 0);
         Check.told("the last band", x, x.band(5, 2), 5, 0);
+        Edge.parkFault(tunes(5) + bands(6) + "tune bf loud 1 toll 1;", 3, tunes(5).length() + bands(6).length() + 5);
+        Edge.parkFault(tunes(6) + bands(5) + "band tf at 0 0 strength 1 lips 1;", 3, tunes(6).length() + bands(5).length() + 5);
+        Check.told("the last band's name", x, Check.evenings(x, "set bf 0 tf;when tired bf;end;when holds bf < 1;end;"), 3, 0);
         String six = tunes(6);
         Edge.parkFault(six + "tune tg loud 1 toll 1;", 6, six.length());
         Edge.parkFault(six + "tune", 6, six.length());

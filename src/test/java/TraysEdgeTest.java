@@ -225,6 +225,14 @@ public final class TraysEdgeTest {
         Check.told("what was there is gone", x, x.read(2, 24), 0, 0);
         x.write(2, 0, 255);
         Check.told("of the new sort", x, x.read(2, 0), 255, 0);
+        x.tray(3, 3, 60);
+        for (int place = 0; place < 60; place++) {
+            x.write(3, place, place + 1);
+        }
+        Check.flag("60 again", x, x.tray(3, 3, 60), 0);
+        for (int place = 0; place < 60; place++) {
+            Check.told("all 0 to the last", x, x.read(3, place), 0, 0);
+        }
     }
 
     private static void writes() {

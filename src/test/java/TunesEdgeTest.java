@@ -116,6 +116,10 @@ public final class TunesEdgeTest {
         x = Check.made("park 1 by 1;tune a loud 0 toll 0;tune b loud 0 toll 0;tune c loud 0 toll 0;tune d loud 0 toll 0;tune e loud 0 toll 0;"
             + "tune f loud 1 toll 0;band z at 0 0 strength 0 lips 0;");
         holds("the last tune", x, 0, 0, 4, 4, 5555);
+        x = Check.made("park 1 by 1;rest 1;tune a loud 0 toll 0;tune b loud 0 toll 0;tune c loud 0 toll 0;tune d loud 0 toll 0;tune e loud 0 toll 0;"
+            + "tune f loud 1 toll 2;band z at 0 0 strength 0 lips 3;");
+        holds("the last tune takes lips, too", x, 0, 0, 2, 1, 5);
+        holds("and its band tires", x, 0, 0, 3, 2, 555);
     }
 
     private static void holdingAgainst() {
@@ -146,6 +150,13 @@ public final class TunesEdgeTest {
         holds("four", x, 0, 0, 4, 1, 0);
         x.rule(5, 2);
         holds("four, with rest 2", x, 0, 0, 4, 2, 6000);
+        x = Check.made("park 2 by 1;fade 0;rest 1;tune a loud 1 toll 2;band l at 0 0 strength 0 lips 4;"
+            + "band r at 1 0 strength 20 lips 9 plays a hush hush;");
+        x.soothe(0, 3);
+        // hush makes it 4, enough for two hours; a would be played, and leave 1
+        holds("hush is a rest", x, 0, 0, 3, 2, 600);
+        x.soothe(0, 4);
+        holds("no more than the most: hush keeps 4", x, 0, 0, 3, 2, 600);
     }
 
     private static void holdingLate() {
@@ -204,6 +215,15 @@ public final class TunesEdgeTest {
         x.train(1, 2);
         Check.told("rain takes 2: b is the first that is heard", x, x.best(1), 1, 0);
         Check.told("nothing is changed by it", x, x.plays(0), 0, 0);
+        x = Check.made("park 6 by 1;fade 0;tune a loud 1 toll 0;tune b loud 3 toll 0;band l at 0 0 strength 0 lips 0;band m at 1 0 strength 0 lips 0;"
+            + "band n at 2 0 strength 0 lips 0;band o at 3 0 strength 0 lips 0;band p at 4 0 strength 0 lips 0;band q at 5 0 strength 1 lips 0;");
+        Check.told("all five others are silent: the first", x, x.best(0), 0, 0);
+        Check.told("all", x, x.bestLawns(0), 6, 0);
+        x.set(5, 0, 0);
+        Check.told("the last of six plays: b", x, x.best(0), 1, 0);
+        x.set(5, 0, 1);
+        Check.told("and louder: none", x, x.bestLawns(0), 0, 0);
+        Check.told("the last of six itself", x, x.best(5), 0, 0);
     }
 
     private static void low() {
