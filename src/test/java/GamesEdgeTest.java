@@ -89,6 +89,17 @@ public final class GamesEdgeTest {
         Check.told("against the last of six", x, x.game(0, 5, 0), -30, 0);
         Check.told("against the last of six: a blur", x, x.game(0, 5, 1), 0, 0);
         Check.told("two others: the last plays on", x, x.game(0, 1, 3), 0, 0);
+        x = Check.made("park 4 by 1;fade 9;pond 0 0;tune a loud 9 toll 0;tune b loud 10 toll 0;band l at 0 0 strength 0 lips 0 plays a;"
+            + "band r at 3 0 strength 0 lips 0 plays a;");
+        Check.told("a pond is one cell", x, x.game(0, 1, 0), 0, 0);
+        Check.told("for the second, too", x, x.game(1, 0, 0), 0, 0);
+        Check.told("b holds two", x, x.game(0, 1, 1), 1, 0);
+        Check.told("b holds two", x, x.game(1, 0, 1), 1, 0);
+        x = Check.made("park 4 by 1;fade 0;tune a loud 0 toll 0;tune b loud 0 toll 0;tune c loud 0 toll 0;tune d loud 1 toll 0;tune e loud 2 toll 0;"
+            + "tune f loud 3 toll 0;band l at 0 0 strength 0 lips 0 plays a;band r at 3 0 strength 0 lips 0 plays e;");
+        Check.told("the last of six tunes", x, x.game(0, 1, 1), 4, 0);
+        Check.told("and then of the second", x, x.game(0, 1, 2), 0, 0);
+        Check.told("of the second first", x, x.game(1, 0, 2), 0, 0);
         x = Check.made("park 2 by 1;band l at 0 0 strength 20 lips 0;band r at 1 0 strength 0 lips 0;");
         for (int turns = 0; turns < 4; turns++) {
             Check.told("no tunes", x, x.game(0, 1, turns), 0, 0);
@@ -134,6 +145,10 @@ public final class GamesEdgeTest {
         Check.no("all others are worse", x, x.moveOf(0, 1, 1), 8);
         Check.no("all others are worse", x, x.moveOf(0, 1, 2), 8);
         Check.told("r: b makes a blur", x, x.moveOf(1, 0, 1), 1, 0);
+        x = Check.made("park 4 by 1;fade 0;tune a loud 0 toll 0;tune b loud 0 toll 0;tune c loud 0 toll 0;tune d loud 1 toll 0;tune e loud 2 toll 0;"
+            + "tune f loud 3 toll 0;band l at 0 0 strength 0 lips 0 plays f;band r at 3 0 strength 0 lips 0 plays e;");
+        Check.no("it plays the last of six, the only one that is good", x, x.moveOf(0, 1, 1), 8);
+        Check.told("the second: f", x, x.moveOf(1, 0, 1), 5, 0);
         x = Check.made("park 2 by 1;fade 0;tune a loud 1 toll 0;band l at 0 0 strength 0 lips 0 plays a;band r at 1 0 strength 0 lips 0 plays a;");
         Check.no("one tune alone, which it plays", x, x.moveOf(0, 1, 1), 8);
     }

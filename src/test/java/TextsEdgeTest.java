@@ -249,6 +249,22 @@ public final class TextsEdgeTest {
             Check.same("kind of byte " + c, x.fault(0), blank ? 0 : begins ? 2 : 1);
             Check.same("place of byte " + c, x.fault(1), blank ? -1 : 1);
         }
+        for (int c = 0; c < 256; c++) {
+            boolean letter = c >= 'a' && c <= 'z';
+            boolean digit = c >= '0' && c <= '9';
+            boolean sign = c == ';' || c == '<' || c == '>' || c == '=';
+            boolean blank = c == 10 || c == 32;
+            if (blank) {
+                Check.same("a word, byte " + c, Check.made("fade" + (char) c + "1;").many(4), 1);
+                Edge.parkFault("fade 1" + (char) c, 2, 7);
+            } else if (c == ';') {
+                Edge.parkFault("fade;", 2, 4);
+                Check.same("a number, byte " + c, Check.made("fade 1;").many(4), 1);
+            } else {
+                Edge.parkFault("fade" + (char) c + " 1;", letter || digit || sign ? 2 : 1, letter ? 0 : digit ? 6 : 4);
+                Edge.parkFault("fade 1" + (char) c, digit ? 4 : letter || sign ? 2 : 1, digit ? 5 : 6);
+            }
+        }
         Edge.parkFault("fade\t1;", 1, 4);
         Edge.parkFault("fade\r\n1;", 1, 4);
         Edge.parkFault("fade 1,", 1, 6);

@@ -157,6 +157,10 @@ public final class TunesEdgeTest {
         holds("hush is a rest", x, 0, 0, 3, 2, 600);
         x.soothe(0, 4);
         holds("no more than the most: hush keeps 4", x, 0, 0, 3, 2, 600);
+        x = Check.made("park 2 by 1;fade 0;rest 1;tune a loud 1 toll 2;band l at 0 0 strength 0 lips 4 plays a;"
+            + "band r at 1 0 strength 20 lips 9 plays a hush hush;");
+        x.soothe(0, 3);
+        holds("whatever its programme would leave", x, 0, 0, 3, 2, 600);
     }
 
     private static void holdingLate() {
@@ -224,6 +228,11 @@ public final class TunesEdgeTest {
         x.set(5, 0, 1);
         Check.told("and louder: none", x, x.bestLawns(0), 0, 0);
         Check.told("the last of six itself", x, x.best(5), 0, 0);
+        x = Check.made("park 2 by 1;fade 9;pond 0 0;pond 1 0;tune a loud 1 toll 0;tune b loud 11 toll 0;band l at 0 0 strength 0 lips 0;");
+        Edge.promise(43, "How many CELLS it would HOLD with that");
+        Check.told("ponds are a cell each", x, x.bestLawns(0), 2, 0);
+        Edge.promise(42, "with which it would HOLD the most CELLS");
+        Check.told("b", x, x.best(0), 1, 0);
     }
 
     private static void low() {

@@ -196,6 +196,14 @@ public final class WaysEdgeTest {
         x.write(0, 0, 1);
         Check.told("played, then tired: 3", x, x.fitsAt(0, 0, 2, 0), 3, 0);
         Check.told("played, then tired: 5", x, x.fitsAt(0, 0, 2, 1), 5, 0);
+        x.soothe(0, 0);
+        x.soothe(1, 0);
+        Check.told("the lips now do not matter: 3", x, x.fitsAt(0, 0, 2, 0), 3, 0);
+        Check.told("the lips now do not matter: 5", x, x.fitsAt(0, 0, 2, 1), 5, 0);
+        Check.told("played: 10", x, x.fitsAt(0, 0, 1, 1), 10, 0);
+        x.hour(1);
+        Check.told("nor does the hour: 10", x, x.fitsAt(0, 0, 1, 1), 10, 0);
+        Check.told("nor does the hour: 3", x, x.fitsAt(0, 0, 1, 0), 3, 0);
     }
 
     // ---- QUIET ways
