@@ -719,7 +719,7 @@ public final class BandPark {
             return no(THERE_IS_NONE);
         }
         now.beginEvenings(seed);
-        now.doSteps(0, now.park.evenings.steps, 0);
+        Stage.doSteps(now, 0, now.park.evenings.steps, 0);
         now.copyTallies(tallies);
         hasLived = true;
         return yes(now.done);
@@ -749,7 +749,7 @@ public final class BandPark {
         for (int i = 0; i < many; i++) {
             lookAhead(0);
             ahead.beginEvenings(seed + i);
-            ahead.doSteps(0, ahead.park.evenings.steps, 0);
+            Stage.doSteps(ahead, 0, ahead.park.evenings.steps, 0);
             points += ahead.park.band[band].points;
         }
         return tellFraction(points, many);
@@ -1983,27 +1983,28 @@ public final class BandPark {
         }
 
         /** Does the steps of a block, and those of the blocks in it. */
-        void doSteps(int from, int to, int depth) {
-            if (depth > MOST_WITHIN || to > MOST_STEPS) {
+        private static void doSteps(Stage on, int from, int to, int depth) {
+            if (depth > MOST_WITHIN || from < 0 || to > MOST_STEPS) {
                 return;
             }
-            for (int step = from; step < to && !stopped; step++) {
-                if (done >= MOST_DONE) {
-                    left = true;
-                    stopped = true;
+            Evenings evenings = on.park.evenings;
+            for (int step = from; step < to && !on.stopped; step++) {
+                if (on.done >= MOST_DONE) {
+                    on.left = true;
+                    on.stopped = true;
                     return;
                 }
-                done++;
-                int word = park.evenings.word[step];
-                int after = Math.max(park.evenings.after[step], step + 1);
-                int times = word == W_LOOP ? park.evenings.number[step] : 0;
+                on.done++;
+                int word = evenings.word[step];
+                int after = Math.max(evenings.after[step], step + 1);
+                int times = word == W_LOOP ? evenings.number[step] : 0;
                 if (word == W_WHEN) {
-                    times = isSo(step) ? 1 : 0;
-                } else if (word != W_LOOP && !doPlain(step)) {
-                    missed++;
+                    times = on.isSo(step) ? 1 : 0;
+                } else if (word != W_LOOP && !on.doPlain(step)) {
+                    on.missed++;
                 }
-                for (int i = 0; i < times && !stopped; i++) {
-                    doSteps(step + 1, after, depth + 1);
+                for (int i = 0; i < times && !on.stopped; i++) {
+                    doSteps(on, step + 1, after, depth + 1);
                 }
                 step = after - 1;
             }
@@ -2195,21 +2196,24 @@ public final class BandPark {
 
         int playGame(Stage stage, int band, int other, int turns) {
             takePlays(stage);
-            return valueOf(stage, band, other, turns, true);
+            return valueOf(plays, stage, band, other, turns, true);
         }
 
         /** What the first gets with so many turns left, the first or the second being next. */
-        private int valueOf(Stage stage, int band, int other, int turns, boolean firstIsNext) {
+        private static int valueOf(int[] plays, Stage stage, int band, int other, int turns, boolean firstIsNext) {
             if (turns <= 0 || turns > MOST_TURNS) {
                 int slot = stage.sound.slotOf(plays);
                 return stage.sound.lawnsIn(slot, band) - stage.sound.lawnsIn(slot, other);
             }
             int who = firstIsNext ? band : other;
+            if (who < 0 || who >= plays.length) {
+                return 0;
+            }
             int stays = plays[who];
             int best = firstIsNext ? -MOST_CELLS : MOST_CELLS;
             for (int i = 0; i <= stage.park.tunes; i++) {
                 plays[who] = entryInOrder(stage.park, i);
-                int value = valueOf(stage, band, other, turns - 1, !firstIsNext);
+                int value = valueOf(plays, stage, band, other, turns - 1, !firstIsNext);
                 best = firstIsNext ? Math.max(best, value) : Math.min(best, value);
             }
             plays[who] = stays;
@@ -2223,7 +2227,7 @@ public final class BandPark {
             for (int i = 0; i <= stage.park.tunes; i++) {
                 int entry = entryInOrder(stage.park, i);
                 plays[band] = entry;
-                if (entry != stays && valueOf(stage, band, other, turns - 1, false) == best) {
+                if (entry != stays && valueOf(plays, stage, band, other, turns - 1, false) == best) {
                     return entry;
                 }
             }
